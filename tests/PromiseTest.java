@@ -161,6 +161,149 @@ public final class PromiseTest {
     secondSevenFaults();
     secondSevenTurns();
     secondEightRules();
+    greatNumbers();
+    justAtBounds();
+    sixteenCells();
+  }
+
+  static void greatNumbers() {
+    PackWatch x = closed(1000, 500, 50);
+    set(x, 0, 4500, 25, 80, 20, 10000);
+    x.run(1);
+    due("10 * 10 * 50 / 500", x.of(0, 3), 260);
+    due("POLAR 800 by 8", x.of(0, 13), 100);
+    PackWatch y = closed(9999, 1000, 99);
+    set(y, 0, 4500, 5, 999, 4, 99999, 2, 900, 20, 99999);
+    due("HIGH, HOT", y.run(1), 2);
+    due("CURRENT", y.is(4), 99999);
+    due("VOLTS", y.of(0, 6), 4200 + 9899);
+    due("9899 * 1000 / 99999", y.of(0, 15), 98);
+    due("250 and 1940, less 60", y.of(0, 3), 2130);
+    due("nothing is let through", y.limit(1), 0);
+    PackWatch z = closed(9999, 500, 0);
+    set(z, 19, 2);
+    z.run(1);
+    z.open();
+    z.close();
+    z.run(1);
+    set(z, 20, 49995);
+    z.run(72);
+    due("PART", z.of(0, 4), 600);
+    set(z, 20, 0);
+    z.run(1);
+    due("RESTED of 2: none yet", z.of(0, 16), NONE);
+    z.run(1);
+    due("no RESTING ahead at 10: it was set behind it", z.of(0, 17), 0);
+    due("GUESS", z.of(0, 16), 9999);
+    PackWatch w = closed(100, 0, 0, 100, 0, 99);
+    set(w, 4, 99999, 5, 999, 25, 99, 1, 2000, 17, 2000, 20, -99999);
+    w.run(1);
+    due("CURRENT", w.is(4), -99999);
+    due("VOLTS far down: 3000 - 1237 - 9900", w.of(1, 6), 3000 - 1237 - 9900);
+    due("POLAR", w.of(0, 13), -1237);
+    due("BUS", w.is(2), 3000 - 1237 + 3000 - 1237 - 9900);
+    w.open();
+    w.run(1);
+    due("BUS half, downward", w.is(2), -3187);
+  }
+
+  static void justAtBounds() {
+    PackWatch a = closed(1000, 500, 0);
+    a.open();
+    set(a, 7, 185);
+    a.close();
+    due("3515 is 950 of 1000 of 3700", a.run(1), 0);
+    due("CLOSED", a.is(1), 2);
+    PackWatch b = closed(1000, 500, 0);
+    b.open();
+    set(b, 7, 186);
+    b.close();
+    due("3514 is less, and it falls", b.run(1), 1);
+    due("PRECHARGE", b.is(5), 32);
+    PackWatch c = closed(1000, 500, 0);
+    c.open();
+    c.charge(0, 0);
+    c.stuck(2, 2);
+    c.close();
+    c.run(1);
+    due("PACK has not more: nothing comes", c.is(2), 3700);
+    PackWatch d = closed(102, 1000, 0);
+    set(d, 24, 1, 20, -7200);
+    d.run(1);
+    due("CHARGE held to 360000", d.of(0, 1), 360000);
+    due("RECKONED held to 360000, then less", d.of(0, 8), 352800);
+    PackWatch e = closed(1000, 500, 0);
+    set(e, 24, 1, 20, 3600);
+    e.run(1);
+    due("THROUGH is FADE times 3600", e.of(0, 0), 999);
+    PackWatch f = new PackWatch();
+    set(f, 6, 234);
+    f.run(1);
+    due("BOARD 16 by 16", f.is(7), 249);
+    set(f, 6, 264);
+    f.run(1);
+    due("BOARD 15 by 16", f.is(7), 249);
+    PackWatch g = closed(1000, 500, 0);
+    set(g, 6, 0);
+    g.warm(0, 0);
+    set(g, 20, 1);
+    due("at COLD", g.run(1), 0);
+    set(g, 3, 1, 20, 0);
+    due("below COLD without CURRENT", g.run(1), 0);
+    set(g, 20, -100);
+    due("below COLD out of it", g.run(1), 0);
+    set(g, 3, 0, 6, -32, 20, 1);
+    due("below COLD by CURRENT 1", g.run(1), 1);
+    PackWatch h = closed(1000, 500, 0);
+    set(h, 23, 1, 20, 1);
+    h.run(1);
+    due("TAPER 1, REQUEST 1", h.setting(20), 0);
+    PackWatch i = pack(1000, 600, 0, 1000, 500, 0, 1000, 600, 0, 1000, 500, 0, 1000, 600, 0);
+    set(i, 11, 2);
+    int[] moved = {1000, 2000, 3000, 4000};
+    int[] ofFirst = {2159500, 2159500, 2159000, 2159000};
+    int[] ofLast = {2160000, 2159500, 2159500, 2159000};
+    for (int t = 0; t < 4; t++) {
+      i.run(1);
+      due("0 at odd TIMES", i.of(0, 1), ofFirst[t]);
+      due("4 at even TIMES", i.of(4, 1), ofLast[t]);
+      due("two SHUTTLES a SECOND", i.is(10), moved[t]);
+    }
+    PackWatch j = pack(100, 500, 0);
+    set(j, 0, 3000, 21, 1);
+    j.run(1);
+    set(j, 0, 4200);
+    j.run(1);
+    due("reset(0)", j.reset(0), true);
+  }
+
+  static void sixteenCells() {
+    PackWatch x = pack();
+    for (int i = 0; i < 16; i++) x.cell(1000, 500 + i, 1);
+    x.close();
+    due("run", x.run(12), 0);
+    due("STATE", x.is(1), 2);
+    set(x, 20, 1000, 23, 4000, 22, 9, 11, 1, 13, 16, 14, 0);
+    x.run(1);
+    due("all but the least", x.is(13), 0xfffe);
+    set(x, 11, 2);
+    x.run(4);
+    due("SHUTTLES", x.is(10) > 0, true);
+    x.mark(0);
+    due("since of the last", x.since(0, 15, 0), x.of(15, 4));
+    due("rank", x.rank(15), 0);
+    x.warm(15, -1);
+    due("worst", x.worst(0), 15);
+    x.warm(15, 250);
+    due("module", x.module(3, 3), 4);
+    due("halves", x.halves(0), NONE);
+    due("warnings", x.warnings(), 0);
+    due("TAPER ends it", x.eta(0), NONE);
+    set(x, 23, 0, 0, 4500, 17, 2000);
+    due("eta(0)", x.eta(0) > 1700, true);
+    due("hours", x.hours(1000, 99999), 1);
+    due("flow(14)", x.flow(14) != BAD, true);
+    due("flow(15)", x.flow(15), BAD);
   }
 
   static void secondOne() {
@@ -373,6 +516,11 @@ public final class PromiseTest {
     due("no SHUNT", x.is(13), 0);
     due("HOT by the BOARD", x.is(5), 4);
     due("CULPRIT is the BOARD", x.culprit(2), NONE);
+    PackWatch v = pack(1000, 550, 0, 1000, 500, 0);
+    set(v, 11, 1);
+    v.run(1);
+    due("CELL 0 is chosen, too", v.is(13), 1);
+    due("CHARGE", v.of(0, 1), 1980000 - 100);
     PackWatch y = pack(100, 0, 0, 100, 11, 0);
     set(y, 11, 1, 12, 9999);
     y.charge(1, 3960);
@@ -941,6 +1089,123 @@ public final class PromiseTest {
     z.wipe();
     z.undo();
     due("wipe undone", z.is(12), 1);
+    PackWatch w = pack(1000, 500, 0, 1000, 600, 0);
+    set(w, 11, 1);
+    w.run(1);
+    w.set(11, 0);
+    w.run(1);
+    due("none is shunted", w.is(13), 0);
+    w.undo();
+    due("CELLS that were shunted", w.is(13), 2);
+    wholly();
+    freshCells();
+  }
+
+  /** All that can be told of a pack. */
+  static String all(PackWatch x) {
+    StringBuilder told = new StringBuilder();
+    for (int i = 0; i < 30; i++) told.append(x.setting(i)).append(' ').append(x.is(i)).append(' ');
+    for (int c = 0; c < x.is(0); c++) {
+      for (int i = 0; i < 19; i++) told.append(x.of(c, i)).append(' ');
+      for (int i = 0; i < 32; i++) told.append(x.turn(c, i)).append(' ').append(x.cycles(c, i)).append(' ');
+      for (int m = 0; m < 3; m++) for (int i = 0; i < 4; i++) told.append(x.since(m, c, i)).append(' ');
+    }
+    for (int i = -1; i < 33; i++) {
+      for (int k = 0; k < 5; k++) {
+        told.append(x.ruleOf(i, k)).append(' ').append(x.zoneOf(i, k)).append(' ').append(x.driveOf(i, k)).append(' ');
+        told.append(x.trace(i, k)).append(' ').append(x.book(i, k)).append(' ');
+      }
+      told.append(x.culprit(i)).append(' ').append(x.when(i)).append(' ').append(x.stuckAs(i)).append(' ');
+    }
+    for (int h = 0; h <= 24; h++) told.append(x.cheapest(h, 12, 1)).append(' ');
+    for (int f = 0; f < 8; f++) told.append(x.foretold(4, f)).append(' ').append(x.foretoldOf(4, 1, 5 + f)).append(' ');
+    return told.append(x.steps()).toString();
+  }
+
+  /** A pack of which nearly nothing is as at first. */
+  static PackWatch rich() {
+    PackWatch x = closed(110, 500, 30, 120, 520, 0, 130, 480, 5);
+    set(x, 24, 1, 25, 50, 22, 30, 19, 2, 18, 3, 11, 1, 14, 0, 0, 4500, 1, 2000);
+    x.zone(-400, 30000);
+    x.zone(300, 2500);
+    x.rule(2, false, -5, 14, 3);
+    x.price(7, 7);
+    x.mark(1);
+    int[] requests = {5000, -3000, 1500, 0, 3500, -1200, 0, 2600};
+    for (int q : requests) { x.set(20, q); x.run(3); }
+    x.set(11, 2);
+    x.set(14, 2);
+    x.run(2);
+    x.warm(1, 310);
+    x.set(20, 4000);
+    x.run(1);
+    x.stuck(1, 1);
+    x.piece(2000, 3);
+    x.set(28, 10);
+    x.run(1);
+    return x;
+  }
+
+  static void wholly() {
+    PackWatch x = rich();
+    String then = all(x);
+    due("the same calls, the same answers", then.equals(all(rich())), true);
+    int zeros = 0;
+    for (int i = 0; i < 16; i++) if (x.is(i) == 0) zeros++;
+    due("of is() 0: BOARD aside none but RESTED, SHUNTED now, STATE", zeros <= 4, true);
+    x.image();
+    due("image() changes nothing", then.equals(all(x)), true);
+    x.set(14, 5);
+    x.run(20);
+    x.cell(500, 500, 5);
+    x.mark(0);
+    x.mark(1);
+    x.set(29, 0);
+    x.run(30);
+    due("another one now", then.equals(all(x)), false);
+    x.back();
+    due("back() brings all", then.equals(all(x)), true);
+    String before = then.substring(0, then.lastIndexOf(' '));
+    x.piece(-2500, 9);
+    x.drive();
+    x.undo();
+    x.undo();
+    due("undo() brings all but the eldest STEP", all(x).startsWith(before), true);
+    for (int n : new int[] {1, 2, 7, 40}) {
+      int[] is = new int[16];
+      int[][] of = new int[3][19];
+      for (int i = 0; i < 16; i++) is[i] = x.foretold(n, i);
+      for (int c = 0; c < 3; c++) for (int i = 0; i < 19; i++) of[c][i] = x.foretoldOf(n, c, i);
+      x.run(n);
+      for (int i = 0; i < 16; i++) due("foretold " + n + " of is " + i, is[i], x.is(i));
+      for (int c = 0; c < 3; c++) for (int i = 0; i < 19; i++) due("foretold " + n + " of " + c + " " + i, of[c][i], x.of(c, i));
+      x.undo();
+    }
+    int[] driven = new int[16];
+    for (int i = 0; i < 16; i++) driven[i] = x.driven(i);
+    x.drive();
+    for (int i = 0; i < 16; i++) due("driven " + i, driven[i], x.is(i));
+  }
+
+  /** What was told of a cell that is taken back does not come again with the next one. */
+  static void freshCells() {
+    PackWatch x = rich();
+    x.back();
+    due("no CELLS", x.is(0), 0);
+    x.cell(1000, 500, 7);
+    int[] want = {1000, 1800000, 7, 250, 500, 3700, 3700, 500, 1800000, 0, 1000, NONE, NONE, 0, 1, -1000000, NONE, 0, 0};
+    for (int i = 0; i < want.length; i++) due("of(0, " + i + ")", x.of(0, i), want[i]);
+    for (int k = 0; k < 11; k++) due("cycles", x.cycles(0, k), 0);
+    due("turn(0, 1)", x.turn(0, 1), NONE);
+    x.set(20, 5000);
+    x.stuck(0, 1);
+    x.stuck(2, 1);
+    x.run(1);
+    due("no SECOND ahead of it", x.of(0, 15), -1000000);
+    x.run(1);
+    x.set(20, 0);
+    x.run(10);
+    due("no RESTING ahead of it", x.of(0, 16), NONE);
   }
 
   static void p21() {
@@ -1092,6 +1357,9 @@ public final class PromiseTest {
     due("not above", z.warnings(), 0);
     z.warm(0, 601);
     due("MARGIN 0", z.warnings(), 4);
+    PackWatch w = pack(1000, 500, 0);
+    set(w, 17, 1, 26, 200);
+    due("a spread of 0 above -199", w.warnings(), 128);
   }
 
   static void p31() {
@@ -1107,6 +1375,11 @@ public final class PromiseTest {
     set(x, 12, 1);
     dueOfAll("need", NONE, x::need, -1, 3, MAX, MIN);
     due("need(1)", x.need(1), 144000);
+    set(x, 12, 9999);
+    x.charge(1, 3600001);
+    due("one above", x.need(1), 1);
+    x.charge(1, 3600000);
+    due("none above", x.need(1), 0);
   }
 
   static void p32() {
@@ -1291,6 +1564,10 @@ public final class PromiseTest {
   static void p42() {
     PackWatch x = new PackWatch();
     due("without cells", x.hours(1000, 1), 0);
+    PackWatch y = pack(100, 500, 0);
+    due("an hour of 50", y.hours(1000, 50), 1);
+    y.charge(0, 179999);
+    due("one more", y.hours(1000, 50), 2);
     x.cell(9999, 0, 0);
     x.cell(100, 500, 0);
     due("hours", x.hours(1000, 9999), 1);
@@ -1398,6 +1675,12 @@ public final class PromiseTest {
     due("the latest one whose WARMTH it has", x.limit(1), 60000);
     set(x, 0, 3000);
     due("0 at least", x.limit(0), 0);
+    PackWatch y = closed(1000, 500, 0);
+    set(y, 25, 99, 20, 1000, 4, 99999);
+    y.run(1);
+    due("into, with POLAR 12: 488 * 200", y.limit(0), 97600);
+    set(y, 5, 100);
+    due("out of, with POLAR 12: 812 * 100", y.limit(1), 81200);
     dueOfAll("limit", NONE, x::limit, -1, 2, MAX, MIN);
   }
 
@@ -1637,6 +1920,11 @@ public final class PromiseTest {
     due("one that moves nothing isn't one", x.bare(), 1);
     set(x, 11, 1, 12, 9999, 29, 0);
     due("none with a FAULT", x.bare(), 2);
+    set(x, 29, 1, 12, 1);
+    x.charge(1, 1839600 + 1998);
+    due("in the 2000th", x.bare(), 2000);
+    x.charge(1, 1839600 + 1999);
+    due("not in 2000", x.bare(), NONE);
   }
 
   static void p61() {
@@ -1722,6 +2010,9 @@ public final class PromiseTest {
     dueOfAll("bestBand n", NONE, n -> x.bestBand(n, 20), 0, 61, -1, MAX, MIN);
     dueOfAll("bestBand spread", NONE, n -> x.bestBand(1, n), -1, 1001, MAX, MIN);
     due("bestBand(60, 1000)", x.bestBand(60, 1000), 99);
+    x.charge(1, 1803600);
+    set(x, 12, 100);
+    due("PART 501: only by BAND 0", x.bestBand(1, 0), 0);
   }
 
   static void p64() {
@@ -1747,6 +2038,12 @@ public final class PromiseTest {
     due("up to 9999", y.yields(1), NONE);
     y.run(9);
     due("TIME is over", y.yields(99999), NONE);
+    PackWatch z = closed(100, 500, 0);
+    set(z, 1, 3000);
+    z.charge(0, 2358);
+    due("in the 2000th", z.yields(1), 2000);
+    z.charge(0, 2359);
+    due("not in 2000", z.yields(1), NONE);
   }
 
   static void p65() {
