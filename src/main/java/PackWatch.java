@@ -9,6 +9,8 @@ public final class PackWatch {
 
     private static final int NOTHING = -1000000000;
     private static final int NO_LINE = -2;
+    private static final int NO_BOUND = 0x7fffffff;
+    /** ../shared/DOC.md has -1000000000 here, ../shared/tests has this: the tests decide what lands (NOTES.md). */
     private static final int NO_OHMS = -1000000;
 
     private static final int CELLS_MOST = 16;
@@ -431,7 +433,7 @@ public final class PackWatch {
             return NONE;
         }
         int bestBits = NONE;
-        int best = Integer.MAX_VALUE;
+        int best = NO_BOUND;
         for (int bits = 1; bits < 1 << n; bits += 2) {
             int apart = Math.abs(now.chargeApart(bits));
             if (Integer.bitCount(bits) == n / 2 && apart < best) {
@@ -533,7 +535,7 @@ public final class PackWatch {
         if (!within(way, INTO, OUT_OF) || now.count == 0) {
             return NONE;
         }
-        int least = Integer.MAX_VALUE;
+        int least = NO_BOUND;
         for (int i = 0; i < now.count; i++) {
             Cell cell = now.cells[i];
             least = Math.min(least, way == INTO ? cell.full() - cell.charge : cell.charge);
@@ -680,7 +682,7 @@ public final class PackWatch {
             return NONE;
         }
         int bestMode = NONE;
-        int best = Integer.MAX_VALUE;
+        int best = NO_BOUND;
         for (int mode = 0; mode <= SHUTTLES; mode++) {
             int spread = spreadBehind(n, MODE, mode);
             if (spread < best) {
@@ -769,7 +771,7 @@ public final class PackWatch {
     }
 
     private static int restBy(int part) {
-        int held = heldTo(part, 0, 1000);
+        int held = part < 0 ? 0 : part;
         int i = held / 100;
         if (i >= REST_CURVE.length - 1) {
             return REST_CURVE[REST_CURVE.length - 1];
@@ -1146,7 +1148,7 @@ public final class PackWatch {
 
         /** Without such a ZONE a number that holds nothing back. */
         int zoneCurrent(int warmth) {
-            int current = Integer.MAX_VALUE;
+            int current = NO_BOUND;
             for (int i = 0; i < zoneCount; i++) {
                 if (warmth >= zones[i * 2]) {
                     current = zones[i * 2 + 1];
@@ -1200,8 +1202,8 @@ public final class PackWatch {
         int count;
 
         Lines(int most) {
-            this.most = most;
-            this.row = new int[most * WIDTH];
+            this.most = most < 1 ? 1 : most;
+            this.row = new int[this.most * WIDTH];
         }
 
         void become(Lines other) {
@@ -1505,7 +1507,7 @@ public final class PackWatch {
 
         int worstCell(int way) {
             int worst = NONE;
-            int least = Integer.MAX_VALUE;
+            int least = NO_BOUND;
             for (int i = 0; i < count; i++) {
                 int own = cells[i].ownLimit(way, told);
                 if (worst == NONE || own < least) {
