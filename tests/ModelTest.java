@@ -940,6 +940,50 @@ public final class ModelTest {
     sameAll(w, m, told);
   }
 
+  /** What lets the greatest currents through. */
+  static final int[][] WIDE = {{0, 4500}, {1, 2000}, {2, 900}, {3, -400}, {4, 99999}, {5, 999}, {8, 0}, {17, 2000}, {21, 1}, {25, 99}};
+
+  /** Far out: the greatest currents, what is told goes to its bounds between SECONDS. */
+  static void farRun(long seed, int calls) throws Exception {
+    r = new Random(seed);
+    PackWatch w = new PackWatch();
+    Model m = new Model();
+    List<String> told = new ArrayList<>();
+    told.add("far seed " + seed);
+    int cellsWanted = 1 + r.nextInt(r.nextInt(4) == 0 ? 16 : 3);
+    for (int i = 0; i < cellsWanted; i++)
+      if (!same(w, m, "cell", new int[] {edge(100, 9999), edge(0, 1000), edge(0, 99)}, told)) return;
+    for (int[] s : WIDE) if (!same(w, m, "set", s, told)) return;
+    for (int i = 0; i < calls; i++) {
+      String name = FAR_ACTS[r.nextInt(FAR_ACTS.length)];
+      if (name.equals("tell")) name = TELLS[r.nextInt(TELLS.length)];
+      if (!same(w, m, name, farArgs(name, m.p), told)) return;
+      for (int f = 0; f < 11 && r.nextInt(3) == 0; f++) if (!same(w, m, "reset", new int[] {f}, told)) return;
+      if (i % 10 == 0 && !sameAll(w, m, told)) return;
+    }
+    sameAll(w, m, told);
+  }
+  static final String[] FAR_ACTS = {"set", "set", "set", "set", "set", "set", "charge", "warm", "stuck", "close", "close", "open",
+    "run", "run", "run", "run", "tell", "tell", "tell", "tell"};
+  static int[] farArgs(String name, MState p) {
+    int cell = r.nextInt(p.cells.size()), setting = r.nextInt(29);
+    switch (name) {
+      case "set":
+        if (r.nextInt(6) == 0) return WIDE[r.nextInt(WIDE.length)];
+        if (r.nextInt(6) > 0) setting = 20;
+        return new int[] {setting, edge(BOUNDS[setting][0], BOUNDS[setting][1])};
+      case "charge": return new int[] {cell, edge(0, (int) p.cells.get(cell).full())};
+      case "warm": return new int[] {cell, edge(-400, 1200)};
+      case "stuck": return new int[] {r.nextInt(3), r.nextInt(3)};
+      case "run": return new int[] {r.nextInt(6) == 0 ? upTo(1, 300) : upTo(1, 4)};
+      default: return argsFor(name, p);
+    }
+  }
+  static int edge(int least, int most) {
+    int k = r.nextInt(4);
+    return k == 0 ? least : k == 1 ? most : upTo(least, most);
+  }
+
   /** Near the end of TIME, where some calls are refused and some stop. */
   static void lateRun(long seed) throws Exception {
     r = new Random(seed);
@@ -972,6 +1016,7 @@ public final class ModelTest {
     for (long seed = from; seed < from + runs && wrong < 5; seed++) {
       oneRun(seed, 250);
       driveRun(seed, 150);
+      farRun(seed, 200);
       if (seed % 10 == 0) lateRun(seed);
     }
     System.out.println(wrong == 0 ? "both readings agree (faults seen " + latchedBits + ", cycles " + cyclesSeen + ")"

@@ -60,6 +60,38 @@ public final class SecondBoundsTest extends Due {
       x.run(n);
       return x;
     }, x -> x.is(2), rows(1, 2, 3, 14, 15, 16), -3187, -1594, -797, -1, -1, -1));
+    test("(1) a quarter (upward) of what PACK has more than a BUS below 0; LOAD less, 0 at least", () -> {
+      int[] loads = rows(0, 1, 1031, 1032, 1033, 9999);
+      row("BUS -200, PACK 4726, by LOAD", SecondBoundsTest::below0, x -> x.is(2), loads, 1032, 1031, 1, 0, 0, 0);
+    });
+    test("(1) PACK below 0: the BUS gets nothing, LOAD less, 0 at least", () -> row("BUS 1125 by LOAD", n -> {
+      PackWatch x = set(wide(9999, 1000, 0), 25, 99, 20, -99999);
+      second(x);
+      set(x, 20, -81829);
+      second(x);
+      charges(x, 9999 * 3600);
+      set(x, 20, -99999);
+      second(x);
+      charges(x, 0);
+      due("PACK (at CURRENT)", x.is(3), -70);
+      due("BUS", x.is(2), 1125);
+      return second(welded(set(x, 7, n)));
+    }, x -> x.is(2), rows(0, 1, 1124, 1125, 1126), 1125, 1124, 1, 0, 0));
+  }
+  /** MINUS and PRE are closed, by whatever STATE. */
+  static PackWatch welded(PackWatch x) {
+    x.stuck(0, 1);
+    x.stuck(1, 1);
+    return x;
+  }
+  /** A BUS that five SECONDS have halved from -6374, then a SECOND behind PRE. */
+  static PackWatch below0(int load) {
+    PackWatch x = second(set(wide(100, 0, 0, 100, 0, 99), 25, 99, 20, -99999));
+    x.open();
+    x.run(5);
+    due("BUS", x.is(2), -200);
+    due("PACK", x.is(3), 4726);
+    return second(welded(set(x, 7, load)));
   }
 
   static void precharges() {

@@ -5,7 +5,7 @@ import java.util.function.Supplier;
 /** What the tests by sentences share: each test bears the sentence it is for, and makes its own objects. */
 class Due {
   static final int NONE = -1, BAD = -1000000000;
-  /** Promise 23 has -1000000000 for no MEASURED OHMS; ../shared/tests/PackWatchRuns.java asks for this (NOTES.md). */
+  /** No MEASURED OHMS (promise 23). */
   static final int NO_OHMS = -1000000;
   static final int MAX = Integer.MAX_VALUE, MIN = Integer.MIN_VALUE;
   static final int OPEN = 0, PRECHARGE = 1, CLOSED = 2;

@@ -10,7 +10,6 @@ public final class PackWatch {
     private static final int NOTHING = -1000000000;
     private static final int NO_LINE = -2;
     private static final int NO_BOUND = 0x7fffffff;
-    /** ../shared/DOC.md has -1000000000 here, ../shared/tests has this: the tests decide what lands (NOTES.md). */
     private static final int NO_OHMS = -1000000;
 
     private static final int CELLS_MOST = 16;
